@@ -21,6 +21,7 @@ public final class HundredthSheep {
     private static final int MOST_BEASTS = 99;
     private static final int MOST_EACH = 100;
     private static final int MOST_DUE = 999;
+    private static final int UNPAYABLE = 1000000000;
     private static final int MOST_BYTES = 1600;
     private static final int MOST_RESTS = 30;
     private static final int MOST_IN_ORDERS = 6;
@@ -56,9 +57,9 @@ public final class HundredthSheep {
 
     public HundredthSheep() {
         tape = new Tape();
-        reader = new Reader();
         moor = new Moor();
         draft = new Moor();
+        reader = new Reader(tape, draft);
         images = new Moor[IMAGES];
         for (int k = 0; k < IMAGES; k++) {
             images[k] = new Moor();
@@ -94,7 +95,7 @@ public final class HundredthSheep {
     }
 
     public int moor() {
-        reader.begin(tape, draft);
+        reader.begin();
         for (int i = 0; i <= MOST_BYTES && reader.hasMore(); i++) {
             reader.readLine();
         }
@@ -761,22 +762,25 @@ public final class HundredthSheep {
 
         int fault;
         int place = NONE;
-        private Tape tape;
-        private Moor into;
+        private final Tape tape;
+        private final Moor into;
         private boolean ownersTold;
         private int kind;
         private int at;
         private int next;
         private int value;
 
-        void begin(Tape from, Moor draft) {
-            tape = from;
-            into = draft;
+        Reader(Tape tape, Moor into) {
+            this.tape = tape;
+            this.into = into;
+        }
+
+        void begin() {
             fault = 0;
             place = NONE;
             ownersTold = false;
             next = 0;
-            draft.forget();
+            into.forget();
             step();
         }
 
@@ -1203,7 +1207,8 @@ public final class HundredthSheep {
     private static final class Plan {
         final Moor thought = new Moor();
         final Walk walk;
-        final boolean[] taken = new boolean[HOURS * MOST_DAYS + 1];
+        // how many others go in each hour
+        final int[] others = new int[HOURS * MOST_DAYS];
         int least;
         int gap;
         int hour;
@@ -1227,11 +1232,12 @@ public final class HundredthSheep {
             Drive d = thought.drive[number];
             int gapWas = d.gap;
             int hourWas = d.hour;
-            markTaken(number);
-            least = Integer.MAX_VALUE;
-            for (int g = 0; g < thought.gaps; g++) {
+            countOthers(number);
+            least = UNPAYABLE;
+            // nobody pays less than nothing, so the first by which he pays nothing is best
+            for (int g = 0; g < thought.gaps && least > 0; g++) {
                 d.gap = g;
-                for (int h = 0; h < HOURS; h++) {
+                for (int h = 0; h < HOURS && least > 0; h++) {
                     d.hour = h;
                     if (h > 0 && !differs(number)) {
                         continue;
@@ -1249,12 +1255,12 @@ public final class HundredthSheep {
             d.hour = hourWas;
         }
 
-        private void markTaken(int number) {
-            Arrays.fill(taken, false);
+        private void countOthers(int number) {
+            Arrays.fill(others, 0);
             for (int i = 0; i < thought.drives; i++) {
                 int time = thought.passage(i);
                 if (i != number && time != NONE) {
-                    taken[time] = true;
+                    others[time]++;
                 }
             }
         }
@@ -1262,7 +1268,7 @@ public final class HundredthSheep {
         /** An hour later only matters if another drive is met or left by it, or a night comes between. */
         private boolean differs(int number) {
             int time = thought.passage(number);
-            return time < 1 || time % HOURS == 0 || taken[time] || taken[time - 1];
+            return time < 1 || time % HOURS == 0 || others[time] > 0 || others[time - 1] > 0;
         }
 
         void seekSplit(int number) {
@@ -1272,8 +1278,8 @@ public final class HundredthSheep {
             thought.drive[last].copy(stays);
             thought.drives = last + 1;
             stays.lambs = 0;
-            splitLeast = Integer.MAX_VALUE;
-            for (int stay = 1; stay < sheep; stay++) {
+            splitLeast = UNPAYABLE;
+            for (int stay = 1; stay < sheep && splitLeast > 0; stay++) {
                 stays.sheep = stay;
                 thought.drive[last].sheep = sheep - stay;
                 seekBest(last);
