@@ -123,7 +123,16 @@ public final class PromiseTests {
         type(x, " \n ");
         is("moor() of blanks", x.moor(), 0);
         is("dues()", x.dues(), -2);
-        is("count(0)", x.count(0), 0);
+        for (int what = 0; what < 6; what++) {
+            is("count(" + what + ")", x.count(what), 0);
+        }
+        is("paid(0)", x.paid(0), -2);
+        is("pays(0, 0)", x.pays(0, 0), -2);
+        type(x, MOOR);
+        is("moor() of one line", x.moor(), 1);
+        is("dues()", x.dues(), 0);
+        is("rest()", x.rest(), -1);
+        is("left(0)", x.left(0), 2);
         type(x, "moor\n\ngaps 04days 009each100due 0;law all;law gaps;law clear;law keep;law pass;law count;");
         is("moor() of the longest tokens", x.moor(), 7);
         is("count(0)", x.count(0), 4);
@@ -185,6 +194,9 @@ public final class PromiseTests {
         faultOf(MOOR + (char) 200, 1, 32);
         faultOf(MOOR + "law none", 1, 36);
         faultOf(MOOR + "law all", 1, 39);
+        faultOf(MOOR + "lawz all;", 1, 32);
+        faultOf(MOOR + "xaw all;", 1, 32);
+        faultOf(MOOR + "laws all;", 1, 32);
         faultOf(MOOR + "owners 6", 2, 39);
         faultOf(MOOR + "owners 0", 2, 39);
         faultOf(MOOR + "owners 1;owners", 2, 41);
@@ -404,6 +416,7 @@ public final class PromiseTests {
             is("sent(0, " + n + ")", x.sent(0, n), zeroth[n]);
             is("sent(1, " + n + ")", x.sent(1, n), first[n]);
         }
+        is("sent(1, 30)", x.sent(1, 30), 100);
         is("sent(2, 0)", x.sent(2, 0), -2);
         is("sent(0, 31)", x.sent(0, 31), -2);
         is("sent(0, -1)", x.sent(0, -1), -2);
@@ -416,6 +429,12 @@ public final class PromiseTests {
         HundredthSheep z = of("moor gaps 1 days 1 each 2 due 3;drive 0 gap 0 on 0 at 4 sheep 2 lame;");
         is("best(0, 0) of a lame one", z.best(0, 0), 0);
         is("best(0, 2) of a lame one", z.best(0, 2), 23);
+        // a night that clears lies ahead of one that is lame at 23
+        HundredthSheep night = of("moor gaps 1 days 2 each 2 due 1;law clear;owners 2;drive 1 gap 0 on 0 at 0 sheep 1;"
+            + "drive 0 gap 0 on 0 at 5 sheep 1 lame;");
+        is("best(1, 0) over night", night.best(1, 0), 0);
+        is("best(1, 2) over night", night.best(1, 2), 23);
+        is("rest() over night", night.rest(), 1);
     }
 
     private static void splits() {
@@ -433,6 +452,8 @@ public final class PromiseTests {
         is("split(0, -1)", x.split(0, -1), -2);
         is("drive(0, 4) stays", x.drive(0, 4), 4);
         is("count(3) stays", x.count(3), 2);
+        x.law(4, 1);
+        is("split(0, 1) of ones", x.split(0, 1), 2);
         // the lambs go with the others, so fewer sheep can
         HundredthSheep y = of("moor gaps 2 days 1 each 4 due 3;drive 0 gap 0 on 0 at 5 sheep 4 lambs 2;");
         is("split(0, 0) with lambs", y.split(0, 0), 0);
@@ -441,6 +462,10 @@ public final class PromiseTests {
         HundredthSheep z = of("moor gaps 1 days 1 each 100 due 3;" + repeat("drive 0 gap 0 on 0 at 5 sheep 8;", 12));
         is("split(11, 0) of twelve", z.split(11, 0), 0);
         is("split(11, 1) of twelve", z.split(11, 1), 1);
+        HundredthSheep twelve = of("moor gaps 1 days 1 each 2 due 3;owners 2;" + repeat("drive 0 gap 0 on 0 at 5 sheep 2;", 11)
+            + "drive 1 gap 0 on 0 at 5 sheep 3;");
+        is("split(11, 0) with a thirteenth that pays", twelve.split(11, 0), 3);
+        is("split(0, 0) of two sheep", twelve.split(0, 1), 1);
     }
 
     private static void harms() {
@@ -473,6 +498,11 @@ public final class PromiseTests {
         is("waits(0, 0, 0, 1)", y.waits(0, 0, 0, 1), 0);
         is("waits(1, 0, 0, 0)", y.waits(1, 0, 0, 0), 0);
         is("waits(1, 0, 0, 1)", y.waits(1, 0, 0, 1), 5);
+        y.sets(0, 0, 1);
+        y.sets(1, 0, 1);
+        is("waits(0, 0, 0, 0) at 1", y.waits(0, 0, 0, 0), 1);
+        y.sets(1, 0, 23);
+        is("waits(0, 0, 0, 0) at 23", y.waits(0, 0, 0, 0), 23);
         is("waits(1, 0, 0, 2)", y.waits(1, 0, 0, 2), -2);
         is("waits(1, 0, 0, -1)", y.waits(1, 0, 0, -1), -2);
         is("waits(2, 0, 0, 0)", y.waits(2, 0, 0, 0), -2);
@@ -623,11 +653,17 @@ public final class PromiseTests {
             + "drive 1 gap 0 on 0 at 5 sheep 1;");
         is("mixed(1, 0)", x.mixed(1, 0), 3);
         is("mixed(1, 1)", x.mixed(1, 1), 0);
-        // of 4 is 2: the last and the third change places; of 3 is 1, of 2 is 1: 0 1 becomes 0 2 1
-        HundredthSheep y = of("moor gaps 1 days 1 each 3 due 3;owners 2;drive 0 gap 0 on 0 at 5 sheep 3;"
+        // of 4 is 2, of 3 is 1, of 2 is 1: the last comes to the third place, then to the second, which is due
+        HundredthSheep y = of("moor gaps 1 days 1 each 4 due 3;start 0 is 2;owners 2;drive 0 gap 0 on 0 at 5 sheep 3;"
             + "drive 1 gap 0 on 0 at 5 sheep 1;");
         is("paid(0)", y.paid(0), 3);
-        is("mixed(1, 1)", y.mixed(1, 1), 0);
+        is("mixed(1, 0)", y.mixed(1, 0), 0);
+        is("mixed(1, 1)", y.mixed(1, 1), 3);
+        is("luck(1, 1, 1)", y.luck(1, 1, 1), 1);
+        is("mixed(0, 0) and 1", x.mixed(0, 0) + x.mixed(0, 1), 3);
+        type(y, "moor gaps 1 days 1 each 3 due 3;drive 0 gap 0 on 0 at 5 sheep 3;");
+        y.moor();
+        is("mixed(1, 0) of fewer", y.mixed(1, 0), 3);
         is("mixed(-1, 0)", x.mixed(-1, 0), -2);
         is("mixed(2000000001, 0)", x.mixed(2000000001, 0), -2);
         is("mixed(0, 2)", x.mixed(0, 2), -2);
@@ -661,6 +697,8 @@ public final class PromiseTests {
         is("free(0) of too many", y.free(0), -1);
         y.law(4, 0);
         is("free(0) of nothing due", y.free(0), 2);
+        HundredthSheep most = of("moor gaps 1 days 1 each 2 due 1;drive 0 gap 0 on 0 at 0 sheep 99;");
+        is("free(0) of the most", most.free(0), 100);
         HundredthSheep none = of(MOOR);
         is("free(0) without drives", none.free(0), 2);
         promise = "36 all";
@@ -688,6 +726,10 @@ public final class PromiseTests {
         }
         is("count(9)", x.count(9), -1);
         is("count(-1)", x.count(-1), -1);
+        for (int slot = 0; slot < 4; slot++) {
+            x.row(slot, 0, 1);
+        }
+        is("count(8)", x.count(8), 4);
         HundredthSheep y = new HundredthSheep();
         for (int what = 0; what < 9; what++) {
             is("count(" + what + ") of a new one", y.count(what), 0);
