@@ -99,11 +99,11 @@ public final class HundredthSheep {
         for (int i = 0; i <= MOST_BYTES && reader.hasMore(); i++) {
             reader.readLine();
         }
-        // a tape is used up by being read, whether or not it has a fault
-        tape.length = 0;
+        // by a fault all stays, the tape too: end(0) empties it
         if (reader.fault != 0) {
             return FAULTY;
         }
+        tape.length = 0;
         moor.copy(draft);
         return moor.lines;
     }

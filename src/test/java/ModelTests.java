@@ -624,6 +624,8 @@ public final class ModelTests {
                 is("moor()", lines, -4);
                 is("fault(0)", x.fault(0), f.kind);
                 is("fault(1)", x.fault(1), f.place);
+                is("count(6)", x.count(6), now.length());
+                x.end(0);
             }
         }
     }

@@ -119,7 +119,9 @@ public final class PromiseTests {
         type(x, "moor gaps 1");
         is("moor()", x.moor(), -4);
         is("dues()", x.dues(), 4);
-        is("count(6) behind a fault", x.count(6), 0);
+        is("count(6) behind a fault", x.count(6), 11);
+        is("moor() again", x.moor(), -4);
+        x.end(0);
         type(x, " \n ");
         is("moor() of blanks", x.moor(), 0);
         is("dues()", x.dues(), -2);
@@ -167,6 +169,7 @@ public final class PromiseTests {
         x.moor();
         is("fault(0)", x.fault(0), 1);
         is("fault(2)", x.fault(2), -1);
+        x.end(0);
         type(x, MOOR);
         x.moor();
         is("fault(0) behind a good one", x.fault(0), 0);
