@@ -580,18 +580,6 @@ public final class ModelTests {
         return s;
     }
 
-    private static void type(HundredthSheep x, String text) {
-        for (int i = 0; i < text.length(); i += 20) {
-            int[] five = new int[5];
-            for (int j = 0; j < 20; j++) {
-                int sign = i + j < text.length() ? text.charAt(i + j) : ';';
-                five[j / 4] |= sign << (24 - 8 * (j % 4));
-            }
-            x.feed(five[0], five[1], five[2], five[3], five[4]);
-        }
-        x.end(text.length());
-    }
-
     // ---- the calls beside the model
 
     private static String now = "";
@@ -613,7 +601,7 @@ public final class ModelTests {
             if (now.length() > 1600) {
                 continue;
             }
-            type(x, now);
+            Trial.type(x, now);
             int lines = x.moor();
             try {
                 M m = new P(now).read();
@@ -823,7 +811,7 @@ public final class ModelTests {
                 continue;
             }
             HundredthSheep x = new HundredthSheep();
-            type(x, text);
+            Trial.type(x, text);
             M m = new P(text).read();
             is("moor()", x.moor(), m.lines);
             counted(x, m);

@@ -1,9 +1,10 @@
+import java.io.IOException;
+
 /** Each promise by itself: ordinary inputs, the edges that the document names, wrong inputs. */
 public final class PromiseTests {
-    private static int wrong = 0;
-    private static String promise = "";
+    private static final String MOOR = Trial.MOOR;
 
-    private static final String MOOR = "moor gaps 1 days 1 each 2 due 1;";
+    private static Trial trial;
 
     // counted by hand; see dues() for who pays when
     private static final String VALLEY =
@@ -30,52 +31,31 @@ public final class PromiseTests {
         + "drive 2 gap 0 on 0 at 1 sheep 3 painted 1;";
 
     private static void is(String call, long got, long want) {
-        if (got != want) {
-            wrong++;
-            System.out.println(promise + ": " + call + " answered " + got + ", due is " + want);
-        }
+        trial.is(call, got, want);
     }
 
     private static void type(HundredthSheep x, String text) {
-        int length = x.count(6) + text.length();
-        for (int i = 0; i < text.length(); i += 20) {
-            int[] five = new int[5];
-            for (int j = 0; j < 20; j++) {
-                int sign = i + j < text.length() ? text.charAt(i + j) : 0;
-                five[j / 4] |= sign << (24 - 8 * (j % 4));
-            }
-            x.feed(five[0], five[1], five[2], five[3], five[4]);
-        }
-        x.end(length);
+        Trial.type(x, text);
     }
 
     private static HundredthSheep of(String text) {
-        HundredthSheep x = new HundredthSheep();
-        type(x, text);
-        if (x.moor() <= 0) {
-            wrong++;
-            System.out.println(promise + ": fault " + x.fault(0) + " at " + x.fault(1) + " in " + text);
-        }
-        return x;
+        return trial.told(text);
     }
 
     private static void rowOf(HundredthSheep x, int slot, long... numbers) {
-        x.row(slot, 2, numbers.length);
-        for (int i = 0; i < numbers.length; i++) {
-            x.write(slot, i, numbers[i]);
-        }
+        Trial.rowOf(x, slot, numbers);
     }
 
     private static String repeat(String text, int times) {
-        StringBuilder all = new StringBuilder();
-        for (int i = 0; i < times; i++) {
-            all.append(text);
-        }
-        return all.toString();
+        return text.repeat(times);
+    }
+
+    private static void faultOf(String text, int fault, int place) {
+        trial.faulty(text, fault, place);
     }
 
     private static void fresh() {
-        promise = "1 new";
+        trial.about("1 new");
         HundredthSheep x = new HundredthSheep();
         is("count(6)", x.count(6), 0);
         is("dues()", x.dues(), -2);
@@ -84,14 +64,14 @@ public final class PromiseTests {
     }
 
     private static void tape() {
-        promise = "2 feed";
+        trial.about("2 feed");
         HundredthSheep x = new HundredthSheep();
         for (int i = 1; i <= 80; i++) {
             is("feed", x.feed(0, 0, 0, 0, 0), 20 * i);
         }
         is("feed beyond", x.feed(0, 0, 0, 0, 0), -1);
         is("count(6)", x.count(6), 1600);
-        promise = "3 end";
+        trial.about("3 end");
         is("end(1601)", x.end(1601), -1);
         is("end(-1)", x.end(-1), -1);
         is("end(1600)", x.end(1600), 1600);
@@ -109,7 +89,7 @@ public final class PromiseTests {
     }
 
     private static void reading() {
-        promise = "4 moor";
+        trial.about("4 moor");
         HundredthSheep x = new HundredthSheep();
         is("moor()", x.moor(), 0);
         type(x, VALLEY);
@@ -149,17 +129,8 @@ public final class PromiseTests {
         is("count(4)", x.count(4), 2);
     }
 
-    private static void faultOf(String text, int fault, int place) {
-        HundredthSheep x = new HundredthSheep();
-        type(x, text);
-        is("moor() of " + text, x.moor(), -4);
-        is("fault(0) of " + text, x.fault(0), fault);
-        is("fault(1) of " + text, x.fault(1), place);
-        is("count(5) of " + text, x.count(5), 0);
-    }
-
     private static void faults() {
-        promise = "5 fault";
+        trial.about("5 fault");
         HundredthSheep x = new HundredthSheep();
         is("fault(0)", x.fault(0), 0);
         is("fault(1)", x.fault(1), -1);
@@ -234,7 +205,7 @@ public final class PromiseTests {
     }
 
     private static void drives() {
-        promise = "6 drive";
+        trial.about("6 drive");
         HundredthSheep x = of(VALLEY);
         int[] first = {0, 0, 0, 8, 4, 2, 0, 0};
         int[] third = {2, 1, 0, 8, 3, 0, 0, 0};
@@ -248,13 +219,13 @@ public final class PromiseTests {
         is("drive(-1, 0)", x.drive(-1, 0), -2);
         is("drive(0, 8)", x.drive(0, 8), -2);
         is("drive(0, -1)", x.drive(0, -1), -2);
-        promise = "7 goes";
+        trial.about("7 goes");
         is("goes(0)", x.goes(0), 8);
         is("goes(3)", x.goes(3), -1);
         is("goes(4)", x.goes(4), 24);
         is("goes(5)", x.goes(5), -2);
         is("goes(-1)", x.goes(-1), -2);
-        promise = "9 sets";
+        trial.about("9 sets");
         is("sets(4, 1, 22)", x.sets(4, 1, 22), 23);
         is("goes(4)", x.goes(4), 23);
         is("drive(4, 1)", x.drive(4, 1), 1);
@@ -269,7 +240,7 @@ public final class PromiseTests {
     }
 
     private static void laws() {
-        promise = "8 law";
+        trial.about("8 law");
         HundredthSheep x = of(VALLEY);
         int[] was = {0, 0, 0, 5, 7};
         int[] least = {0, 0, 0, 2, 0};
@@ -304,7 +275,7 @@ public final class PromiseTests {
 
     private static void dues() {
         HundredthSheep x = of(VALLEY);
-        promise = "10 counter";
+        trial.about("10 counter");
         is("counter(0, 0, 7)", x.counter(0, 0, 7), 0);
         is("counter(0, 0, 8)", x.counter(0, 0, 8), 1);
         is("counter(0, 0, 9)", x.counter(0, 0, 9), 2);
@@ -315,7 +286,7 @@ public final class PromiseTests {
         is("counter(0, 2, 0)", x.counter(0, 2, 0), -2);
         is("counter(0, 0, 24)", x.counter(0, 0, 24), -2);
         is("counter(0, 0, -1)", x.counter(0, 0, -1), -2);
-        promise = "11 through";
+        trial.about("11 through");
         is("through(0, 0, 0)", x.through(0, 0, 0), 12);
         is("through(0, 1, 0)", x.through(0, 1, 0), 7);
         is("through(0, 1, 1)", x.through(0, 1, 1), 5);
@@ -324,9 +295,9 @@ public final class PromiseTests {
         is("through(0, 2, 0)", x.through(0, 2, 0), -2);
         is("through(0, 0, 2)", x.through(0, 0, 2), -2);
         is("through(0, 0, -1)", x.through(0, 0, -1), -2);
-        promise = "12 dues";
+        trial.about("12 dues");
         is("dues()", x.dues(), 4);
-        promise = "13 due";
+        trial.about("13 due");
         int[][] due = {{0, 8, 0, 0, 0, 4}, {0, 8, 1, 0, 2, 0}, {0, 9, 0, 1, 1, 3}, {1, 0, 0, 2, 4, 3}};
         for (int i = 0; i < 4; i++) {
             for (int what = 0; what < 6; what++) {
@@ -343,26 +314,26 @@ public final class PromiseTests {
     }
 
     private static void who(HundredthSheep x) {
-        promise = "14 paid";
+        trial.about("14 paid");
         is("paid(0)", x.paid(0), 14);
         is("paid(1)", x.paid(1), 7);
         is("paid(3)", x.paid(3), -2);
         is("paid(-1)", x.paid(-1), -2);
-        promise = "15 pays";
+        trial.about("15 pays");
         is("pays(0, 0)", x.pays(0, 0), 2);
         is("pays(2, 0)", x.pays(2, 0), 0);
         is("pays(2, 1)", x.pays(2, 1), 1);
         is("pays(3, 0)", x.pays(3, 0), -2);
         is("pays(0, 2)", x.pays(0, 2), -2);
         is("pays(0, -1)", x.pays(0, -1), -2);
-        promise = "16 worst";
+        trial.about("16 worst");
         is("worst()", x.worst(), 0);
         x.law(3, 100);
         is("worst() of nobody", x.worst(), -1);
         HundredthSheep y = of("moor gaps 1 days 1 each 2 due 1;owners 3;drive 2 gap 0 on 0 at 1 sheep 2;"
             + "drive 1 gap 0 on 0 at 2 sheep 2;");
         is("worst() of two", y.worst(), 1);
-        promise = "17 left";
+        trial.about("17 left");
         x.law(3, 5);
         is("left(0)", x.left(0), 3);
         is("left(1)", x.left(1), 3);
@@ -371,7 +342,7 @@ public final class PromiseTests {
     }
 
     private static void nights() {
-        promise = "II, III";
+        trial.about("II, III");
         String text = "moor gaps 2 days 3 each 4 due 1;start 0 is 2;start 1 is 3;lambs from 1;"
             + "drive 0 gap 0 on 0 at 5 sheep 1 lambs 9;"
             + "drive 0 gap 1 on 1 at 5 sheep 1 lambs 1;";
@@ -394,7 +365,7 @@ public final class PromiseTests {
 
     private static void plans() {
         HundredthSheep x = of(RIVALS);
-        promise = "18 best";
+        trial.about("18 best");
         is("best(0, 0)", x.best(0, 0), 0);
         is("best(1, 0)", x.best(1, 0), 0);
         is("best(1, 1)", x.best(1, 1), 0);
@@ -403,16 +374,16 @@ public final class PromiseTests {
         is("best(0, 3)", x.best(0, 3), -2);
         is("best(0, -1)", x.best(0, -1), -2);
         is("drive(1, 3) stays", x.drive(1, 3), 9);
-        promise = "20 rest";
+        trial.about("20 rest");
         is("rest()", x.rest(), 1);
-        promise = "21 rests";
+        trial.about("21 rests");
         is("rests(0)", x.rests(0), -1);
         is("rests(2)", x.rests(2), -1);
         is("rests(3)", x.rests(3), 3);
         is("rests(30)", x.rests(30), 3);
         is("rests(31)", x.rests(31), -2);
         is("rests(-1)", x.rests(-1), -2);
-        promise = "22 sent";
+        trial.about("22 sent");
         int[] zeroth = {8, 8, 0, 0, 0};
         int[] first = {9, 0, 0, 100, 100};
         for (int n = 0; n < 5; n++) {
@@ -427,7 +398,7 @@ public final class PromiseTests {
         HundredthSheep y = of(VALLEY);
         is("rest() of all that rest", y.rest(), -1);
         is("rests(0) of all that rest", y.rests(0), 0);
-        promise = "18 best";
+        trial.about("18 best");
         // one that is lame best never comes
         HundredthSheep z = of("moor gaps 1 days 1 each 2 due 3;drive 0 gap 0 on 0 at 4 sheep 2 lame;");
         is("best(0, 0) of a lame one", z.best(0, 0), 0);
@@ -441,7 +412,7 @@ public final class PromiseTests {
     }
 
     private static void splits() {
-        promise = "19 split";
+        trial.about("19 split");
         HundredthSheep x = of("moor gaps 2 days 1 each 4 due 3;owners 2;drive 0 gap 0 on 0 at 5 sheep 4;"
             + "drive 0 gap 1 on 0 at 6 sheep 1;");
         is("split(0, 0)", x.split(0, 0), 0);
@@ -472,7 +443,7 @@ public final class PromiseTests {
     }
 
     private static void harms() {
-        promise = "23 harm";
+        trial.about("23 harm");
         HundredthSheep x = of(VALLEY);
         is("harm(2)", x.harm(2), 7);
         is("harm(0)", x.harm(0), 0);
@@ -486,7 +457,7 @@ public final class PromiseTests {
         HundredthSheep z = of("moor gaps 1 days 1 each 2 due 5;owners 2;drive 1 gap 0 on 0 at 1 sheep 1;"
             + "drive 0 gap 0 on 0 at 2 sheep 1;drive 1 gap 0 on 0 at 3 sheep 1;");
         is("harm(1) below 0", z.harm(1), -5);
-        promise = "24 ewe";
+        trial.about("24 ewe");
         is("ewe(1, 0, 0, 0)", y.ewe(1, 0, 0, 0), 5);
         is("ewe(1, 0, 0, 8)", y.ewe(1, 0, 0, 8), 0);
         is("ewe(0, 0, 0, 8)", y.ewe(0, 0, 0, 8), -5);
@@ -496,7 +467,7 @@ public final class PromiseTests {
         is("ewe(0, 0, 0, 24)", y.ewe(0, 0, 0, 24), -2);
         is("ewe(0, 0, 0, -1)", y.ewe(0, 0, 0, -1), -2);
         is("count(3) stays", y.count(3), 2);
-        promise = "25 waits";
+        trial.about("25 waits");
         is("waits(0, 0, 0, 0)", y.waits(0, 0, 0, 0), 9);
         is("waits(0, 0, 0, 1)", y.waits(0, 0, 0, 1), 0);
         is("waits(1, 0, 0, 0)", y.waits(1, 0, 0, 0), 0);
@@ -515,7 +486,7 @@ public final class PromiseTests {
 
     private static void rings() {
         HundredthSheep x = of(VALLEY);
-        promise = "26 ring";
+        trial.about("26 ring");
         is("ring(0, 3, 2)", x.ring(0, 3, 2), 1);
         is("ring(0, 4, 2)", x.ring(0, 4, 2), 2);
         is("ring(1, 1, 0)", x.ring(1, 1, 0), 0);
@@ -525,7 +496,7 @@ public final class PromiseTests {
         is("ring(0, 1, 100)", x.ring(0, 1, 100), -2);
         is("ring(0, 1, -1)", x.ring(0, 1, -1), -2);
         is("ring(2, 1, 1)", x.ring(2, 1, 1), -2);
-        promise = "27 rounds";
+        trial.about("27 rounds");
         is("rounds(0, 1)", x.rounds(0, 1), 3);
         is("rounds(0, 4)", x.rounds(0, 4), 2);
         is("rounds(0, 5)", x.rounds(0, 5), -1);
@@ -538,17 +509,17 @@ public final class PromiseTests {
 
     private static void explaining() {
         HundredthSheep x = of(THREE);
-        promise = "28 orders";
+        trial.about("28 orders");
         is("orders(0, 0, 0) of nothing", x.orders(0, 0, 0), -6);
         rowOf(x, 0, 1, 1);
         is("orders(0, 0, 0)", x.orders(0, 0, 0), 2);
-        promise = "29 order";
+        trial.about("29 order");
         is("order(0, 0, 0, 0)", x.order(0, 0, 0, 0), 0);
         is("order(0, 0, 0, 1)", x.order(0, 0, 0, 1), 1);
         is("order(0, 0, 0, 2)", x.order(0, 0, 0, 2), 2);
         is("order(0, 0, 0, 3)", x.order(0, 0, 0, 3), -1);
         is("order(0, 0, 0, -1)", x.order(0, 0, 0, -1), -1);
-        promise = "30 sure";
+        trial.about("30 sure");
         is("sure(0, 0, 0, 0)", x.sure(0, 0, 0, 0), 0);
         is("sure(0, 0, 0, 1)", x.sure(0, 0, 0, 1), -1);
         is("sure(0, 0, 0, 3)", x.sure(0, 0, 0, 3), -2);
@@ -580,7 +551,7 @@ public final class PromiseTests {
     }
 
     private static void manyOrders() {
-        promise = "28 orders";
+        trial.about("28 orders");
         String drive = "drive 0 gap 0 on 0 at 5 sheep 8;";
         HundredthSheep x = of("moor gaps 2 days 2 each 100 due 3;" + repeat(drive, 6) + "drive 0 gap 1 on 0 at 0 sheep 1;");
         x.row(0, 3, 0);
@@ -609,7 +580,7 @@ public final class PromiseTests {
 
     private static void telling() {
         HundredthSheep x = of(VALLEY);
-        promise = "31 wrong";
+        trial.about("31 wrong");
         is("wrong of nothing", x.wrong(0, 0), -6);
         rowOf(x, 0, 12, 3);
         is("wrong of none", x.wrong(0, 0), 0);
@@ -618,7 +589,7 @@ public final class PromiseTests {
         is("wrong of two", x.wrong(1, 0), 2);
         rowOf(x, 2, 12, 9999);
         is("wrong of one", x.wrong(2, 0), 1);
-        promise = "32 anew";
+        trial.about("32 anew");
         is("anew of none", x.anew(0, 0), 0);
         is("anew of the same sum", x.anew(1, 0), 0);
         is("anew of two gaps", x.anew(2, 0), 1);
@@ -650,7 +621,7 @@ public final class PromiseTests {
     }
 
     private static void mixing() {
-        promise = "33 mixed";
+        trial.about("33 mixed");
         // draws from seed 1 begin 16838, 5758, 10113: of 3 is 2, of 2 is 0, so the order is as it was
         HundredthSheep x = of("moor gaps 1 days 1 each 2 due 3;owners 2;drive 0 gap 0 on 0 at 5 sheep 2;"
             + "drive 1 gap 0 on 0 at 5 sheep 1;");
@@ -672,7 +643,7 @@ public final class PromiseTests {
         is("mixed(0, 2)", x.mixed(0, 2), -2);
         is("mixed(0, -1)", x.mixed(0, -1), -2);
         is("mixed(2000000000, 0) and 1", x.mixed(2000000000, 0) + x.mixed(2000000000, 1), 3);
-        promise = "34 luck";
+        trial.about("34 luck");
         int more = 0;
         for (int seed = 2000000000 - 19; seed <= 2000000000; seed++) {
             more += x.mixed(seed, 1) > 0 ? 1 : 0;
@@ -689,7 +660,7 @@ public final class PromiseTests {
 
     private static void otherLaws() {
         HundredthSheep x = of(VALLEY);
-        promise = "35 free";
+        trial.about("35 free");
         // owner 0: his drive's six are below 7, but the painted three come to 7 at gap 1 from 4 on
         is("free(0)", x.free(0), 8);
         is("free(1)", x.free(1), 13);
@@ -704,7 +675,7 @@ public final class PromiseTests {
         is("free(0) of the most", most.free(0), 100);
         HundredthSheep none = of(MOOR);
         is("free(0) without drives", none.free(0), 2);
-        promise = "36 all";
+        trial.about("36 all");
         HundredthSheep z = of("moor gaps 2 days 2 each 3 due 2;start 0 is 2;start 1 is 1;"
             + "drive 0 gap 0 on 0 at 0 sheep 3;drive 0 gap 1 on 0 at 1 sheep 2;"
             + "drive 0 gap 0 on 1 at 0 sheep 1;drive 0 gap 1 on 1 at 1 sheep 2;");
@@ -719,7 +690,7 @@ public final class PromiseTests {
     }
 
     private static void counts() {
-        promise = "37 count";
+        trial.about("37 count");
         HundredthSheep x = of(VALLEY + "lambs from 1;");
         type(x, "abc");
         x.row(2, 0, 0);
@@ -740,7 +711,7 @@ public final class PromiseTests {
     }
 
     private static void images() {
-        promise = "38 keep";
+        trial.about("38 keep");
         HundredthSheep x = of(VALLEY);
         is("keep(3)", x.keep(3), -2);
         is("keep(-1)", x.keep(-1), -2);
@@ -750,7 +721,7 @@ public final class PromiseTests {
         is("keep(2)", x.keep(2), 0);
         type(x, RIVALS);
         x.moor();
-        promise = "39 back";
+        trial.about("39 back");
         is("back(1)", x.back(1), -6);
         is("back(3)", x.back(3), -2);
         is("back(-1)", x.back(-1), -2);
@@ -774,7 +745,7 @@ public final class PromiseTests {
     }
 
     private static void slots() {
-        promise = "40 row";
+        trial.about("40 row");
         HundredthSheep x = of("moor gaps 1 days 1 each 2 due 1;");
         is("row(4, 0, 1)", x.row(4, 0, 1), -2);
         is("row(-1, 0, 1)", x.row(-1, 0, 1), -2);
@@ -786,7 +757,7 @@ public final class PromiseTests {
         is("count(8)", x.count(8), 0);
         is("row(0, 0, 60)", x.row(0, 0, 60), 0);
         is("row(0, 0, -1)", x.row(0, 0, -1), -3);
-        promise = "41 write";
+        trial.about("41 write");
         is("write(0, 59, 1)", x.write(0, 59, 1), 0);
         is("write(0, 60, 1)", x.write(0, 60, 1), -7);
         is("write(0, -1, 1)", x.write(0, -1, 1), -7);
@@ -813,7 +784,7 @@ public final class PromiseTests {
     }
 
     private static void pasting(HundredthSheep x) {
-        promise = "42 paste";
+        trial.about("42 paste");
         x.row(0, 1, 4);
         x.row(1, 1, 3);
         x.row(2, 2, 3);
@@ -852,7 +823,8 @@ public final class PromiseTests {
         is("paste from nothing", z.paste(1, 0, 0, 0, 1), -6);
     }
 
-    public static void main(String[] args) {
+    public static void main(String[] args) throws IOException {
+        trial = new Trial();
         fresh();
         tape();
         reading();
@@ -872,9 +844,6 @@ public final class PromiseTests {
         counts();
         images();
         slots();
-        System.out.println(wrong == 0 ? "all promises hold" : wrong + " answers are not as due");
-        if (wrong != 0) {
-            System.exit(1);
-        }
+        trial.close();
     }
 }

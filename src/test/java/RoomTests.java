@@ -4,17 +4,6 @@ import java.lang.management.ManagementFactory;
 public final class RoomTests {
     private static int wrong = 0;
 
-    private static void type(HundredthSheep x, String text) {
-        for (int i = 0; i < text.length(); i += 20) {
-            int[] five = new int[5];
-            for (int j = 0; j < 20 && i + j < text.length(); j++) {
-                five[j / 4] |= text.charAt(i + j) << (24 - 8 * (j % 4));
-            }
-            x.feed(five[0], five[1], five[2], five[3], five[4]);
-        }
-        x.end(text.length());
-    }
-
     private static HundredthSheep greatest(boolean byAll) {
         StringBuilder s = new StringBuilder("moor gaps 4 days 2 each 2 due 999;owners 5;start 0 is 1;");
         s.append(byAll ? "law all;" : "law gaps;");
@@ -25,7 +14,7 @@ public final class RoomTests {
         }
         s.append("fog 0 on 0 misses 2;fog 1 on 0 misses 3;fog 1 on 1 misses 9;");
         HundredthSheep x = new HundredthSheep();
-        type(x, s.toString());
+        Trial.type(x, s.toString());
         if (x.moor() <= 0) {
             wrong++;
             System.out.println("fault " + x.fault(0) + " at " + x.fault(1));
