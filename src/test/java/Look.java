@@ -1,6 +1,3 @@
-import java.util.function.Consumer;
-import java.util.function.ToIntFunction;
-
 /** All that can be seen of an object, as a text: what a call that is refused must leave as it was. */
 final class Look {
     // three gaps, days and owners, five drives, two fogs
@@ -129,35 +126,5 @@ final class Look {
             }
             seen.append(' ').append(number);
         }
-    }
-
-    /** A call that is refused: what it answers, and that all is as it was. */
-    static void refused(Trial trial, String call, ToIntFunction<HundredthSheep> asked, int why) {
-        refused(trial, call, x -> { }, asked, why);
-    }
-
-    /** A call that is refused once an object has been made ready for it. */
-    static void refused(Trial trial, String call, Consumer<HundredthSheep> ready, ToIntFunction<HundredthSheep> asked, int why) {
-        HundredthSheep untouched = made();
-        ready.accept(untouched);
-        HundredthSheep x = made();
-        ready.accept(x);
-        trial.is(call, asked.applyAsInt(x), why);
-        trial.same("behind " + call, at(x), at(untouched));
-    }
-
-    /** A call that is refused for want of a moor. */
-    static void refusedWithoutMoor(Trial trial, String call, ToIntFunction<HundredthSheep> asked) {
-        HundredthSheep x = bare();
-        trial.is(call + " without a moor", asked.applyAsInt(x), -2);
-        trial.same("behind " + call + " without a moor", at(x), at(bare()));
-    }
-
-    /** A call that answers and changes nothing. */
-    static void looksOnly(Trial trial, String call, ToIntFunction<HundredthSheep> asked) {
-        HundredthSheep x = made();
-        int answer = asked.applyAsInt(x);
-        trial.is(call + " again", asked.applyAsInt(x), answer);
-        trial.same("behind " + call, at(x), at(made()));
     }
 }

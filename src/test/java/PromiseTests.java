@@ -1,10 +1,10 @@
 import java.io.IOException;
 
 /** Each promise by itself: ordinary inputs, the edges that the document names, wrong inputs. */
-public final class PromiseTests {
-    private static final String MOOR = Trial.MOOR;
-
-    private static Trial trial;
+public final class PromiseTests extends Trial {
+    private PromiseTests() throws IOException {
+        super();
+    }
 
     // counted by hand; see dues() for who pays when
     private static final String VALLEY =
@@ -30,32 +30,8 @@ public final class PromiseTests {
         + "drive 1 gap 0 on 0 at 2 sheep 3;"
         + "drive 2 gap 0 on 0 at 1 sheep 3 painted 1;";
 
-    private static void is(String call, long got, long want) {
-        trial.is(call, got, want);
-    }
-
-    private static void type(HundredthSheep x, String text) {
-        Trial.type(x, text);
-    }
-
-    private static HundredthSheep of(String text) {
-        return trial.told(text);
-    }
-
-    private static void rowOf(HundredthSheep x, int slot, long... numbers) {
-        Trial.rowOf(x, slot, numbers);
-    }
-
-    private static String repeat(String text, int times) {
-        return text.repeat(times);
-    }
-
-    private static void faultOf(String text, int fault, int place) {
-        trial.faulty(text, fault, place);
-    }
-
-    private static void fresh() {
-        trial.about("1 new");
+    private void fresh() {
+        about("1 new");
         HundredthSheep x = new HundredthSheep();
         is("count(6)", x.count(6), 0);
         is("dues()", x.dues(), -2);
@@ -63,15 +39,15 @@ public final class PromiseTests {
         is("NONE", HundredthSheep.NONE, -1);
     }
 
-    private static void tape() {
-        trial.about("2 feed");
+    private void tape() {
+        about("2 feed");
         HundredthSheep x = new HundredthSheep();
         for (int i = 1; i <= 80; i++) {
             is("feed", x.feed(0, 0, 0, 0, 0), 20 * i);
         }
         is("feed beyond", x.feed(0, 0, 0, 0, 0), -1);
         is("count(6)", x.count(6), 1600);
-        trial.about("3 end");
+        about("3 end");
         is("end(1601)", x.end(1601), -1);
         is("end(-1)", x.end(-1), -1);
         is("end(1600)", x.end(1600), 1600);
@@ -88,8 +64,8 @@ public final class PromiseTests {
         is("moor()", x.moor(), 1);
     }
 
-    private static void reading() {
-        trial.about("4 moor");
+    private void reading() {
+        about("4 moor");
         HundredthSheep x = new HundredthSheep();
         is("moor()", x.moor(), 0);
         type(x, VALLEY);
@@ -129,8 +105,8 @@ public final class PromiseTests {
         is("count(4)", x.count(4), 2);
     }
 
-    private static void faults() {
-        trial.about("5 fault");
+    private void faults() {
+        about("5 fault");
         HundredthSheep x = new HundredthSheep();
         is("fault(0)", x.fault(0), 0);
         is("fault(1)", x.fault(1), -1);
@@ -145,68 +121,68 @@ public final class PromiseTests {
         x.moor();
         is("fault(0) behind a good one", x.fault(0), 0);
         is("fault(1) behind a good one", x.fault(1), -1);
-        faultOf("law all;" + MOOR, 1, 0);
-        faultOf(";", 1, 0);
-        faultOf(" 7", 1, 1);
-        faultOf("moorgaps 1", 1, 0);
-        faultOf("Moor", 1, 0);
-        faultOf("moor\tgaps", 1, 4);
-        faultOf("moor gaps", 1, 9);
-        faultOf("moor gaps ", 1, 10);
-        faultOf("moor gaps days", 1, 10);
-        faultOf("moor gaps 0 ?", 2, 10);
-        faultOf("moor gaps 5", 2, 10);
-        faultOf("moor gaps 1 days 10", 2, 17);
-        faultOf("moor gaps 1 days 0", 2, 17);
-        faultOf("moor gaps 1 days 1 each 1", 2, 24);
-        faultOf("moor gaps 1 days 1 each 101", 2, 24);
-        faultOf("moor gaps 1 days 1 each 4294967298", 2, 24);
-        faultOf("moor gaps 1 days 1 each 2 due 1000", 2, 30);
-        faultOf("moor gaps 1 days 1 each 2 due 1", 1, 31);
-        faultOf(MOOR + "moor", 1, 32);
-        faultOf(MOOR + ";", 1, 32);
-        faultOf(MOOR + (char) 200, 1, 32);
-        faultOf(MOOR + "law none", 1, 36);
-        faultOf(MOOR + "law all", 1, 39);
-        faultOf(MOOR + "lawz all;", 1, 32);
-        faultOf(MOOR + "xaw all;", 1, 32);
-        faultOf(MOOR + "laws all;", 1, 32);
-        faultOf(MOOR + "owners 6", 2, 39);
-        faultOf(MOOR + "owners 0", 2, 39);
-        faultOf(MOOR + "owners 1;owners", 2, 41);
-        faultOf(MOOR + "drive 0 gap 0 on 0 at 0 sheep 1;owners", 2, 64);
-        faultOf(MOOR + "start 1 is", 2, 38);
-        faultOf(MOOR + "start 0 is 2", 2, 43);
-        faultOf(MOOR + "lambs from 1", 2, 43);
-        faultOf(MOOR + "lambs 1", 1, 38);
+        faulty("law all;" + MOOR, 1, 0);
+        faulty(";", 1, 0);
+        faulty(" 7", 1, 1);
+        faulty("moorgaps 1", 1, 0);
+        faulty("Moor", 1, 0);
+        faulty("moor\tgaps", 1, 4);
+        faulty("moor gaps", 1, 9);
+        faulty("moor gaps ", 1, 10);
+        faulty("moor gaps days", 1, 10);
+        faulty("moor gaps 0 ?", 2, 10);
+        faulty("moor gaps 5", 2, 10);
+        faulty("moor gaps 1 days 10", 2, 17);
+        faulty("moor gaps 1 days 0", 2, 17);
+        faulty("moor gaps 1 days 1 each 1", 2, 24);
+        faulty("moor gaps 1 days 1 each 101", 2, 24);
+        faulty("moor gaps 1 days 1 each 4294967298", 2, 24);
+        faulty("moor gaps 1 days 1 each 2 due 1000", 2, 30);
+        faulty("moor gaps 1 days 1 each 2 due 1", 1, 31);
+        faulty(MOOR + "moor", 1, 32);
+        faulty(MOOR + ";", 1, 32);
+        faulty(MOOR + (char) 200, 1, 32);
+        faulty(MOOR + "law none", 1, 36);
+        faulty(MOOR + "law all", 1, 39);
+        faulty(MOOR + "lawz all;", 1, 32);
+        faulty(MOOR + "xaw all;", 1, 32);
+        faulty(MOOR + "laws all;", 1, 32);
+        faulty(MOOR + "owners 6", 2, 39);
+        faulty(MOOR + "owners 0", 2, 39);
+        faulty(MOOR + "owners 1;owners", 2, 41);
+        faulty(MOOR + "drive 0 gap 0 on 0 at 0 sheep 1;owners", 2, 64);
+        faulty(MOOR + "start 1 is", 2, 38);
+        faulty(MOOR + "start 0 is 2", 2, 43);
+        faulty(MOOR + "lambs from 1", 2, 43);
+        faulty(MOOR + "lambs 1", 1, 38);
     }
 
-    private static void faultsOfDrives() {
+    private void faultsOfDrives() {
         String drive = "drive 0 gap 0 on 0 at 0 sheep 1";
-        faultOf(MOOR + "drive 1", 2, 38);
-        faultOf(MOOR + "drive 0 gap 1", 2, 44);
-        faultOf(MOOR + "drive 0 gap 0 on 1", 2, 49);
-        faultOf(MOOR + "drive 0 gap 0 on 0 at 24", 2, 54);
-        faultOf(MOOR + "drive 0 gap 0 on 0 at 0 sheep 0", 2, 62);
-        faultOf(MOOR + "drive 0 gap 0 on 0 at 0 sheep 100", 2, 62);
-        faultOf(MOOR + drive + " lambs 100", 2, 70);
-        faultOf(MOOR + drive + " painted 0", 2, 72);
-        faultOf(MOOR + drive + " painted 1", 2, 72);
-        faultOf(MOOR + drive + " painted lame", 1, 72);
-        faultOf(MOOR + drive + " lame lambs", 1, 69);
-        faultOf(MOOR + drive + " lame lame", 1, 69);
-        faultOf(MOOR + repeat(drive + ";", 12) + "drive", 3, 416);
-        faultOf(MOOR + repeat("fog 0 on 0 misses 2;", 8) + "fog", 3, 192);
-        faultOf(MOOR + "fog 1", 2, 36);
-        faultOf(MOOR + "fog 0 on 1", 2, 41);
-        faultOf(MOOR + "fog 0 on 0 misses 1", 2, 50);
-        faultOf(MOOR + "fog 0 on 0 misses 10", 2, 50);
-        faultOf(MOOR + "fog 0 on 0 misses 2", 1, 51);
+        faulty(MOOR + "drive 1", 2, 38);
+        faulty(MOOR + "drive 0 gap 1", 2, 44);
+        faulty(MOOR + "drive 0 gap 0 on 1", 2, 49);
+        faulty(MOOR + "drive 0 gap 0 on 0 at 24", 2, 54);
+        faulty(MOOR + "drive 0 gap 0 on 0 at 0 sheep 0", 2, 62);
+        faulty(MOOR + "drive 0 gap 0 on 0 at 0 sheep 100", 2, 62);
+        faulty(MOOR + drive + " lambs 100", 2, 70);
+        faulty(MOOR + drive + " painted 0", 2, 72);
+        faulty(MOOR + drive + " painted 1", 2, 72);
+        faulty(MOOR + drive + " painted lame", 1, 72);
+        faulty(MOOR + drive + " lame lambs", 1, 69);
+        faulty(MOOR + drive + " lame lame", 1, 69);
+        faulty(MOOR + repeat(drive + ";", 12) + "drive", 3, 416);
+        faulty(MOOR + repeat("fog 0 on 0 misses 2;", 8) + "fog", 3, 192);
+        faulty(MOOR + "fog 1", 2, 36);
+        faulty(MOOR + "fog 0 on 1", 2, 41);
+        faulty(MOOR + "fog 0 on 0 misses 1", 2, 50);
+        faulty(MOOR + "fog 0 on 0 misses 10", 2, 50);
+        faulty(MOOR + "fog 0 on 0 misses 2", 1, 51);
     }
 
-    private static void drives() {
-        trial.about("6 drive");
-        HundredthSheep x = of(VALLEY);
+    private void drives() {
+        about("6 drive");
+        HundredthSheep x = told(VALLEY);
         int[] first = {0, 0, 0, 8, 4, 2, 0, 0};
         int[] third = {2, 1, 0, 8, 3, 0, 0, 0};
         int[] fourth = {1, 0, 1, 23, 5, 0, 1, 1};
@@ -219,13 +195,13 @@ public final class PromiseTests {
         is("drive(-1, 0)", x.drive(-1, 0), -2);
         is("drive(0, 8)", x.drive(0, 8), -2);
         is("drive(0, -1)", x.drive(0, -1), -2);
-        trial.about("7 goes");
+        about("7 goes");
         is("goes(0)", x.goes(0), 8);
         is("goes(3)", x.goes(3), -1);
         is("goes(4)", x.goes(4), 24);
         is("goes(5)", x.goes(5), -2);
         is("goes(-1)", x.goes(-1), -2);
-        trial.about("9 sets");
+        about("9 sets");
         is("sets(4, 1, 22)", x.sets(4, 1, 22), 23);
         is("goes(4)", x.goes(4), 23);
         is("drive(4, 1)", x.drive(4, 1), 1);
@@ -239,9 +215,9 @@ public final class PromiseTests {
         is("goes(4)", x.goes(4), 1);
     }
 
-    private static void laws() {
-        trial.about("8 law");
-        HundredthSheep x = of(VALLEY);
+    private void laws() {
+        about("8 law");
+        HundredthSheep x = told(VALLEY);
         int[] was = {0, 0, 0, 5, 7};
         int[] least = {0, 0, 0, 2, 0};
         int[] most = {1, 1, 1, 100, 999};
@@ -261,21 +237,21 @@ public final class PromiseTests {
         is("due(1, 5)", x.due(1, 5), 0);
         is("due(2, 5)", x.due(2, 5), 5);
         // each below a start: the first is due
-        HundredthSheep y = of("moor gaps 1 days 1 each 9 due 1;start 0 is 8;drive 0 gap 0 on 0 at 5 sheep 3;");
+        HundredthSheep y = told("moor gaps 1 days 1 each 9 due 1;start 0 is 8;drive 0 gap 0 on 0 at 5 sheep 3;");
         y.law(3, 3);
         is("counter(0, 0, 4)", y.counter(0, 0, 4), 8);
         is("due(0, 5)", y.due(0, 5), 0);
         is("dues()", y.dues(), 1);
         is("left(0)", y.left(0), 1);
         y.sets(0, 0, 0);
-        HundredthSheep z = of("moor gaps 1 days 1 each 9 due 1;start 0 is 8;");
+        HundredthSheep z = told("moor gaps 1 days 1 each 9 due 1;start 0 is 8;");
         z.law(3, 3);
         is("left(0) above each", z.left(0), 1);
     }
 
-    private static void dues() {
-        HundredthSheep x = of(VALLEY);
-        trial.about("10 counter");
+    private void dues() {
+        HundredthSheep x = told(VALLEY);
+        about("10 counter");
         is("counter(0, 0, 7)", x.counter(0, 0, 7), 0);
         is("counter(0, 0, 8)", x.counter(0, 0, 8), 1);
         is("counter(0, 0, 9)", x.counter(0, 0, 9), 2);
@@ -286,7 +262,7 @@ public final class PromiseTests {
         is("counter(0, 2, 0)", x.counter(0, 2, 0), -2);
         is("counter(0, 0, 24)", x.counter(0, 0, 24), -2);
         is("counter(0, 0, -1)", x.counter(0, 0, -1), -2);
-        trial.about("11 through");
+        about("11 through");
         is("through(0, 0, 0)", x.through(0, 0, 0), 12);
         is("through(0, 1, 0)", x.through(0, 1, 0), 7);
         is("through(0, 1, 1)", x.through(0, 1, 1), 5);
@@ -295,9 +271,9 @@ public final class PromiseTests {
         is("through(0, 2, 0)", x.through(0, 2, 0), -2);
         is("through(0, 0, 2)", x.through(0, 0, 2), -2);
         is("through(0, 0, -1)", x.through(0, 0, -1), -2);
-        trial.about("12 dues");
+        about("12 dues");
         is("dues()", x.dues(), 4);
-        trial.about("13 due");
+        about("13 due");
         int[][] due = {{0, 8, 0, 0, 0, 4}, {0, 8, 1, 0, 2, 0}, {0, 9, 0, 1, 1, 3}, {1, 0, 0, 2, 4, 3}};
         for (int i = 0; i < 4; i++) {
             for (int what = 0; what < 6; what++) {
@@ -313,27 +289,27 @@ public final class PromiseTests {
         nights();
     }
 
-    private static void who(HundredthSheep x) {
-        trial.about("14 paid");
+    private void who(HundredthSheep x) {
+        about("14 paid");
         is("paid(0)", x.paid(0), 14);
         is("paid(1)", x.paid(1), 7);
         is("paid(3)", x.paid(3), -2);
         is("paid(-1)", x.paid(-1), -2);
-        trial.about("15 pays");
+        about("15 pays");
         is("pays(0, 0)", x.pays(0, 0), 2);
         is("pays(2, 0)", x.pays(2, 0), 0);
         is("pays(2, 1)", x.pays(2, 1), 1);
         is("pays(3, 0)", x.pays(3, 0), -2);
         is("pays(0, 2)", x.pays(0, 2), -2);
         is("pays(0, -1)", x.pays(0, -1), -2);
-        trial.about("16 worst");
+        about("16 worst");
         is("worst()", x.worst(), 0);
         x.law(3, 100);
         is("worst() of nobody", x.worst(), -1);
-        HundredthSheep y = of("moor gaps 1 days 1 each 2 due 1;owners 3;drive 2 gap 0 on 0 at 1 sheep 2;"
+        HundredthSheep y = told("moor gaps 1 days 1 each 2 due 1;owners 3;drive 2 gap 0 on 0 at 1 sheep 2;"
             + "drive 1 gap 0 on 0 at 2 sheep 2;");
         is("worst() of two", y.worst(), 1);
-        trial.about("17 left");
+        about("17 left");
         x.law(3, 5);
         is("left(0)", x.left(0), 3);
         is("left(1)", x.left(1), 3);
@@ -341,12 +317,12 @@ public final class PromiseTests {
         is("left(-1)", x.left(-1), -2);
     }
 
-    private static void nights() {
-        trial.about("II, III");
+    private void nights() {
+        about("II, III");
         String text = "moor gaps 2 days 3 each 4 due 1;start 0 is 2;start 1 is 3;lambs from 1;"
             + "drive 0 gap 0 on 0 at 5 sheep 1 lambs 9;"
             + "drive 0 gap 1 on 1 at 5 sheep 1 lambs 1;";
-        HundredthSheep x = of(text);
+        HundredthSheep x = told(text);
         is("through(0, 0, 0)", x.through(0, 0, 0), 10);
         is("through(0, 0, 1)", x.through(0, 0, 1), 1);
         is("through(1, 1, 1)", x.through(1, 1, 1), 2);
@@ -363,9 +339,9 @@ public final class PromiseTests {
         is("counter(0, 1, 5) by all", x.counter(0, 1, 5), 1);
     }
 
-    private static void plans() {
-        HundredthSheep x = of(RIVALS);
-        trial.about("18 best");
+    private void plans() {
+        HundredthSheep x = told(RIVALS);
+        about("18 best");
         is("best(0, 0)", x.best(0, 0), 0);
         is("best(1, 0)", x.best(1, 0), 0);
         is("best(1, 1)", x.best(1, 1), 0);
@@ -374,16 +350,16 @@ public final class PromiseTests {
         is("best(0, 3)", x.best(0, 3), -2);
         is("best(0, -1)", x.best(0, -1), -2);
         is("drive(1, 3) stays", x.drive(1, 3), 9);
-        trial.about("20 rest");
+        about("20 rest");
         is("rest()", x.rest(), 1);
-        trial.about("21 rests");
+        about("21 rests");
         is("rests(0)", x.rests(0), -1);
         is("rests(2)", x.rests(2), -1);
         is("rests(3)", x.rests(3), 3);
         is("rests(30)", x.rests(30), 3);
         is("rests(31)", x.rests(31), -2);
         is("rests(-1)", x.rests(-1), -2);
-        trial.about("22 sent");
+        about("22 sent");
         int[] zeroth = {8, 8, 0, 0, 0};
         int[] first = {9, 0, 0, 100, 100};
         for (int n = 0; n < 5; n++) {
@@ -395,25 +371,25 @@ public final class PromiseTests {
         is("sent(0, 31)", x.sent(0, 31), -2);
         is("sent(0, -1)", x.sent(0, -1), -2);
         is("drive(1, 3) stays", x.drive(1, 3), 9);
-        HundredthSheep y = of(VALLEY);
+        HundredthSheep y = told(VALLEY);
         is("rest() of all that rest", y.rest(), -1);
         is("rests(0) of all that rest", y.rests(0), 0);
-        trial.about("18 best");
+        about("18 best");
         // one that is lame best never comes
-        HundredthSheep z = of("moor gaps 1 days 1 each 2 due 3;drive 0 gap 0 on 0 at 4 sheep 2 lame;");
+        HundredthSheep z = told("moor gaps 1 days 1 each 2 due 3;drive 0 gap 0 on 0 at 4 sheep 2 lame;");
         is("best(0, 0) of a lame one", z.best(0, 0), 0);
         is("best(0, 2) of a lame one", z.best(0, 2), 23);
         // a night that clears lies ahead of one that is lame at 23
-        HundredthSheep night = of("moor gaps 1 days 2 each 2 due 1;law clear;owners 2;drive 1 gap 0 on 0 at 0 sheep 1;"
+        HundredthSheep night = told("moor gaps 1 days 2 each 2 due 1;law clear;owners 2;drive 1 gap 0 on 0 at 0 sheep 1;"
             + "drive 0 gap 0 on 0 at 5 sheep 1 lame;");
         is("best(1, 0) over night", night.best(1, 0), 0);
         is("best(1, 2) over night", night.best(1, 2), 23);
         is("rest() over night", night.rest(), 1);
     }
 
-    private static void splits() {
-        trial.about("19 split");
-        HundredthSheep x = of("moor gaps 2 days 1 each 4 due 3;owners 2;drive 0 gap 0 on 0 at 5 sheep 4;"
+    private void splits() {
+        about("19 split");
+        HundredthSheep x = told("moor gaps 2 days 1 each 4 due 3;owners 2;drive 0 gap 0 on 0 at 5 sheep 4;"
             + "drive 0 gap 1 on 0 at 6 sheep 1;");
         is("split(0, 0)", x.split(0, 0), 0);
         is("split(0, 1)", x.split(0, 1), 2);
@@ -429,35 +405,35 @@ public final class PromiseTests {
         x.law(4, 1);
         is("split(0, 1) of ones", x.split(0, 1), 2);
         // the lambs go with the others, so fewer sheep can
-        HundredthSheep y = of("moor gaps 2 days 1 each 4 due 3;drive 0 gap 0 on 0 at 5 sheep 4 lambs 2;");
+        HundredthSheep y = told("moor gaps 2 days 1 each 4 due 3;drive 0 gap 0 on 0 at 5 sheep 4 lambs 2;");
         is("split(0, 0) with lambs", y.split(0, 0), 0);
         is("split(0, 1) with lambs", y.split(0, 1), 3);
         // a thirteenth
-        HundredthSheep z = of("moor gaps 1 days 1 each 100 due 3;" + repeat("drive 0 gap 0 on 0 at 5 sheep 8;", 12));
+        HundredthSheep z = told("moor gaps 1 days 1 each 100 due 3;" + repeat("drive 0 gap 0 on 0 at 5 sheep 8;", 12));
         is("split(11, 0) of twelve", z.split(11, 0), 0);
         is("split(11, 1) of twelve", z.split(11, 1), 1);
-        HundredthSheep twelve = of("moor gaps 1 days 1 each 2 due 3;owners 2;" + repeat("drive 0 gap 0 on 0 at 5 sheep 2;", 11)
+        HundredthSheep twelve = told("moor gaps 1 days 1 each 2 due 3;owners 2;" + repeat("drive 0 gap 0 on 0 at 5 sheep 2;", 11)
             + "drive 1 gap 0 on 0 at 5 sheep 3;");
         is("split(11, 0) with a thirteenth that pays", twelve.split(11, 0), 3);
         is("split(0, 0) of two sheep", twelve.split(0, 1), 1);
     }
 
-    private static void harms() {
-        trial.about("23 harm");
-        HundredthSheep x = of(VALLEY);
+    private void harms() {
+        about("23 harm");
+        HundredthSheep x = told(VALLEY);
         is("harm(2)", x.harm(2), 7);
         is("harm(0)", x.harm(0), 0);
         is("harm(3)", x.harm(3), 0);
         is("harm(5)", x.harm(5), -2);
         is("harm(-1)", x.harm(-1), -2);
         is("dues() stay", x.dues(), 4);
-        HundredthSheep y = of(RIVALS);
+        HundredthSheep y = told(RIVALS);
         is("harm(0) to another", y.harm(0), 5);
         is("harm(1)", y.harm(1), 0);
-        HundredthSheep z = of("moor gaps 1 days 1 each 2 due 5;owners 2;drive 1 gap 0 on 0 at 1 sheep 1;"
+        HundredthSheep z = told("moor gaps 1 days 1 each 2 due 5;owners 2;drive 1 gap 0 on 0 at 1 sheep 1;"
             + "drive 0 gap 0 on 0 at 2 sheep 1;drive 1 gap 0 on 0 at 3 sheep 1;");
         is("harm(1) below 0", z.harm(1), -5);
-        trial.about("24 ewe");
+        about("24 ewe");
         is("ewe(1, 0, 0, 0)", y.ewe(1, 0, 0, 0), 5);
         is("ewe(1, 0, 0, 8)", y.ewe(1, 0, 0, 8), 0);
         is("ewe(0, 0, 0, 8)", y.ewe(0, 0, 0, 8), -5);
@@ -467,7 +443,7 @@ public final class PromiseTests {
         is("ewe(0, 0, 0, 24)", y.ewe(0, 0, 0, 24), -2);
         is("ewe(0, 0, 0, -1)", y.ewe(0, 0, 0, -1), -2);
         is("count(3) stays", y.count(3), 2);
-        trial.about("25 waits");
+        about("25 waits");
         is("waits(0, 0, 0, 0)", y.waits(0, 0, 0, 0), 9);
         is("waits(0, 0, 0, 1)", y.waits(0, 0, 0, 1), 0);
         is("waits(1, 0, 0, 0)", y.waits(1, 0, 0, 0), 0);
@@ -484,9 +460,9 @@ public final class PromiseTests {
         is("waits(0, 0, 1, 0)", y.waits(0, 0, 1, 0), -2);
     }
 
-    private static void rings() {
-        HundredthSheep x = of(VALLEY);
-        trial.about("26 ring");
+    private void rings() {
+        HundredthSheep x = told(VALLEY);
+        about("26 ring");
         is("ring(0, 3, 2)", x.ring(0, 3, 2), 1);
         is("ring(0, 4, 2)", x.ring(0, 4, 2), 2);
         is("ring(1, 1, 0)", x.ring(1, 1, 0), 0);
@@ -496,30 +472,30 @@ public final class PromiseTests {
         is("ring(0, 1, 100)", x.ring(0, 1, 100), -2);
         is("ring(0, 1, -1)", x.ring(0, 1, -1), -2);
         is("ring(2, 1, 1)", x.ring(2, 1, 1), -2);
-        trial.about("27 rounds");
+        about("27 rounds");
         is("rounds(0, 1)", x.rounds(0, 1), 3);
         is("rounds(0, 4)", x.rounds(0, 4), 2);
         is("rounds(0, 5)", x.rounds(0, 5), -1);
         is("rounds(0, 0)", x.rounds(0, 0), -2);
         is("rounds(0, 1000)", x.rounds(0, 1000), -2);
         is("rounds(2, 1)", x.rounds(2, 1), -2);
-        HundredthSheep y = of(MOOR);
+        HundredthSheep y = told(MOOR);
         is("rounds(0, 1) each times", y.rounds(0, 1), 2);
     }
 
-    private static void explaining() {
-        HundredthSheep x = of(THREE);
-        trial.about("28 orders");
+    private void explaining() {
+        HundredthSheep x = told(THREE);
+        about("28 orders");
         is("orders(0, 0, 0) of nothing", x.orders(0, 0, 0), -6);
         rowOf(x, 0, 1, 1);
         is("orders(0, 0, 0)", x.orders(0, 0, 0), 2);
-        trial.about("29 order");
+        about("29 order");
         is("order(0, 0, 0, 0)", x.order(0, 0, 0, 0), 0);
         is("order(0, 0, 0, 1)", x.order(0, 0, 0, 1), 1);
         is("order(0, 0, 0, 2)", x.order(0, 0, 0, 2), 2);
         is("order(0, 0, 0, 3)", x.order(0, 0, 0, 3), -1);
         is("order(0, 0, 0, -1)", x.order(0, 0, 0, -1), -1);
-        trial.about("30 sure");
+        about("30 sure");
         is("sure(0, 0, 0, 0)", x.sure(0, 0, 0, 0), 0);
         is("sure(0, 0, 0, 1)", x.sure(0, 0, 0, 1), -1);
         is("sure(0, 0, 0, 3)", x.sure(0, 0, 0, 3), -2);
@@ -550,10 +526,10 @@ public final class PromiseTests {
         manyOrders();
     }
 
-    private static void manyOrders() {
-        trial.about("28 orders");
+    private void manyOrders() {
+        about("28 orders");
         String drive = "drive 0 gap 0 on 0 at 5 sheep 8;";
-        HundredthSheep x = of("moor gaps 2 days 2 each 100 due 3;" + repeat(drive, 6) + "drive 0 gap 1 on 0 at 0 sheep 1;");
+        HundredthSheep x = told("moor gaps 2 days 2 each 100 due 3;" + repeat(drive, 6) + "drive 0 gap 1 on 0 at 0 sheep 1;");
         x.row(0, 3, 0);
         is("orders of six, none due", x.orders(0, 0, 0), 720);
         is("sure of many", x.sure(0, 0, 0, 0), -1);
@@ -569,7 +545,7 @@ public final class PromiseTests {
         is("sure of seven", x.sure(0, 0, 0, 0), -3);
         is("orders of seven, nothing", x.orders(1, 0, 0), -6);
         // by all those at other gaps that day go ahead: 1 + 4 is the first's due
-        HundredthSheep y = of("moor gaps 2 days 1 each 5 due 3;law all;owners 2;drive 0 gap 0 on 0 at 5 sheep 4;"
+        HundredthSheep y = told("moor gaps 2 days 1 each 5 due 3;law all;owners 2;drive 0 gap 0 on 0 at 5 sheep 4;"
             + "drive 1 gap 0 on 0 at 4 sheep 1;drive 1 gap 1 on 0 at 9 sheep 1;");
         rowOf(y, 0, 0);
         is("orders by all", y.orders(0, 0, 0), 2);
@@ -578,9 +554,9 @@ public final class PromiseTests {
         is("order by gaps", y.order(0, 0, 0, 0), 1);
     }
 
-    private static void telling() {
-        HundredthSheep x = of(VALLEY);
-        trial.about("31 wrong");
+    private void telling() {
+        HundredthSheep x = told(VALLEY);
+        about("31 wrong");
         is("wrong of nothing", x.wrong(0, 0), -6);
         rowOf(x, 0, 12, 3);
         is("wrong of none", x.wrong(0, 0), 0);
@@ -589,13 +565,13 @@ public final class PromiseTests {
         is("wrong of two", x.wrong(1, 0), 2);
         rowOf(x, 2, 12, 9999);
         is("wrong of one", x.wrong(2, 0), 1);
-        trial.about("32 anew");
+        about("32 anew");
         is("anew of none", x.anew(0, 0), 0);
         is("anew of the same sum", x.anew(1, 0), 0);
         is("anew of two gaps", x.anew(2, 0), 1);
         is("anew of nothing", x.anew(3, 0), -6);
         for (int gaps = 1; gaps <= 4; gaps++) {
-            HundredthSheep y = of("moor gaps " + gaps + " days 1 each 2 due 3;");
+            HundredthSheep y = told("moor gaps " + gaps + " days 1 each 2 due 3;");
             y.row(0, 0, gaps);
             is("anew of " + gaps + " gaps, right", y.anew(0, 0), 0);
             y.write(0, 0, 1);
@@ -615,20 +591,20 @@ public final class PromiseTests {
         refusedTelling(x, 2, 0, -7);
     }
 
-    private static void refusedTelling(HundredthSheep x, int slot, int day, int why) {
+    private void refusedTelling(HundredthSheep x, int slot, int day, int why) {
         is("wrong(" + slot + ", " + day + ")", x.wrong(slot, day), why);
         is("anew(" + slot + ", " + day + ")", x.anew(slot, day), why);
     }
 
-    private static void mixing() {
-        trial.about("33 mixed");
+    private void mixing() {
+        about("33 mixed");
         // draws from seed 1 begin 16838, 5758, 10113: of 3 is 2, of 2 is 0, so the order is as it was
-        HundredthSheep x = of("moor gaps 1 days 1 each 2 due 3;owners 2;drive 0 gap 0 on 0 at 5 sheep 2;"
+        HundredthSheep x = told("moor gaps 1 days 1 each 2 due 3;owners 2;drive 0 gap 0 on 0 at 5 sheep 2;"
             + "drive 1 gap 0 on 0 at 5 sheep 1;");
         is("mixed(1, 0)", x.mixed(1, 0), 3);
         is("mixed(1, 1)", x.mixed(1, 1), 0);
         // of 4 is 2, of 3 is 1, of 2 is 1: the last comes to the third place, then to the second, which is due
-        HundredthSheep y = of("moor gaps 1 days 1 each 4 due 3;start 0 is 2;owners 2;drive 0 gap 0 on 0 at 5 sheep 3;"
+        HundredthSheep y = told("moor gaps 1 days 1 each 4 due 3;start 0 is 2;owners 2;drive 0 gap 0 on 0 at 5 sheep 3;"
             + "drive 1 gap 0 on 0 at 5 sheep 1;");
         is("paid(0)", y.paid(0), 3);
         is("mixed(1, 0)", y.mixed(1, 0), 0);
@@ -643,7 +619,7 @@ public final class PromiseTests {
         is("mixed(0, 2)", x.mixed(0, 2), -2);
         is("mixed(0, -1)", x.mixed(0, -1), -2);
         is("mixed(2000000000, 0) and 1", x.mixed(2000000000, 0) + x.mixed(2000000000, 1), 3);
-        trial.about("34 luck");
+        about("34 luck");
         int more = 0;
         for (int seed = 2000000000 - 19; seed <= 2000000000; seed++) {
             more += x.mixed(seed, 1) > 0 ? 1 : 0;
@@ -658,25 +634,25 @@ public final class PromiseTests {
         is("luck(0, 1, 2)", x.luck(0, 1, 2), -2);
     }
 
-    private static void otherLaws() {
-        HundredthSheep x = of(VALLEY);
-        trial.about("35 free");
+    private void otherLaws() {
+        HundredthSheep x = told(VALLEY);
+        about("35 free");
         // owner 0: his drive's six are below 7, but the painted three come to 7 at gap 1 from 4 on
         is("free(0)", x.free(0), 8);
         is("free(1)", x.free(1), 13);
         is("free(3)", x.free(3), -2);
         is("free(-1)", x.free(-1), -2);
         is("law(3, 5) stays", x.law(3, 5), 5);
-        HundredthSheep y = of("moor gaps 1 days 1 each 2 due 1;drive 0 gap 0 on 0 at 0 sheep 99 lambs 99;");
+        HundredthSheep y = told("moor gaps 1 days 1 each 2 due 1;drive 0 gap 0 on 0 at 0 sheep 99 lambs 99;");
         is("free(0) of too many", y.free(0), -1);
         y.law(4, 0);
         is("free(0) of nothing due", y.free(0), 2);
-        HundredthSheep most = of("moor gaps 1 days 1 each 2 due 1;drive 0 gap 0 on 0 at 0 sheep 99;");
+        HundredthSheep most = told("moor gaps 1 days 1 each 2 due 1;drive 0 gap 0 on 0 at 0 sheep 99;");
         is("free(0) of the most", most.free(0), 100);
-        HundredthSheep none = of(MOOR);
+        HundredthSheep none = told(MOOR);
         is("free(0) without drives", none.free(0), 2);
-        trial.about("36 all");
-        HundredthSheep z = of("moor gaps 2 days 2 each 3 due 2;start 0 is 2;start 1 is 1;"
+        about("36 all");
+        HundredthSheep z = told("moor gaps 2 days 2 each 3 due 2;start 0 is 2;start 1 is 1;"
             + "drive 0 gap 0 on 0 at 0 sheep 3;drive 0 gap 1 on 0 at 1 sheep 2;"
             + "drive 0 gap 0 on 1 at 0 sheep 1;drive 0 gap 1 on 1 at 1 sheep 2;");
         // keep, by gaps: 2+4 and 1+4; clear: 2+3, 1 and 1+2, 2; keep, by all: 2+8; clear, by all: 2+5, 3
@@ -689,9 +665,9 @@ public final class PromiseTests {
         is("law(0, 0) stays", z.law(0, 0), 0);
     }
 
-    private static void counts() {
-        trial.about("37 count");
-        HundredthSheep x = of(VALLEY + "lambs from 1;");
+    private void counts() {
+        about("37 count");
+        HundredthSheep x = told(VALLEY + "lambs from 1;");
         type(x, "abc");
         x.row(2, 0, 0);
         int[] due = {2, 2, 3, 5, 1, 10, 3, 1, 1};
@@ -710,9 +686,9 @@ public final class PromiseTests {
         }
     }
 
-    private static void images() {
-        trial.about("38 keep");
-        HundredthSheep x = of(VALLEY);
+    private void images() {
+        about("38 keep");
+        HundredthSheep x = told(VALLEY);
         is("keep(3)", x.keep(3), -2);
         is("keep(-1)", x.keep(-1), -2);
         is("keep(0)", x.keep(0), 0);
@@ -721,7 +697,7 @@ public final class PromiseTests {
         is("keep(2)", x.keep(2), 0);
         type(x, RIVALS);
         x.moor();
-        trial.about("39 back");
+        about("39 back");
         is("back(1)", x.back(1), -6);
         is("back(3)", x.back(3), -2);
         is("back(-1)", x.back(-1), -2);
@@ -744,9 +720,9 @@ public final class PromiseTests {
         is("dues()", y.dues(), -2);
     }
 
-    private static void slots() {
-        trial.about("40 row");
-        HundredthSheep x = of("moor gaps 1 days 1 each 2 due 1;");
+    private void slots() {
+        about("40 row");
+        HundredthSheep x = told("moor gaps 1 days 1 each 2 due 1;");
         is("row(4, 0, 1)", x.row(4, 0, 1), -2);
         is("row(-1, 0, 1)", x.row(-1, 0, 1), -2);
         is("row(0, 4, 1)", x.row(0, 4, 1), -2);
@@ -757,7 +733,7 @@ public final class PromiseTests {
         is("count(8)", x.count(8), 0);
         is("row(0, 0, 60)", x.row(0, 0, 60), 0);
         is("row(0, 0, -1)", x.row(0, 0, -1), -3);
-        trial.about("41 write");
+        about("41 write");
         is("write(0, 59, 1)", x.write(0, 59, 1), 0);
         is("write(0, 60, 1)", x.write(0, 60, 1), -7);
         is("write(0, -1, 1)", x.write(0, -1, 1), -7);
@@ -777,14 +753,14 @@ public final class PromiseTests {
         pasting(x);
     }
 
-    private static void cutTo(HundredthSheep x, int width, long v, int wrong) {
+    private void cutTo(HundredthSheep x, int width, long v, int wrong) {
         x.row(3, width, 1);
         x.write(3, 0, v);
         is("wrong of " + v + " cut to " + width, x.wrong(3, 0), wrong);
     }
 
-    private static void pasting(HundredthSheep x) {
-        trial.about("42 paste");
+    private void pasting(HundredthSheep x) {
+        about("42 paste");
         x.row(0, 1, 4);
         x.row(1, 1, 3);
         x.row(2, 2, 3);
@@ -805,7 +781,7 @@ public final class PromiseTests {
         }
         is("paste(0, 0, 0, 1, 3)", x.paste(0, 0, 0, 1, 3), 0);
         int[] due = {1, 1, 2, 3};
-        HundredthSheep y = of("moor gaps 1 days 4 each 2 due 1;drive 0 gap 0 on 0 at 0 sheep 1;"
+        HundredthSheep y = told("moor gaps 1 days 4 each 2 due 1;drive 0 gap 0 on 0 at 0 sheep 1;"
             + "drive 0 gap 0 on 1 at 0 sheep 2;drive 0 gap 0 on 2 at 0 sheep 3;");
         y.row(0, 1, 4);
         for (int i = 0; i < 4; i++) {
@@ -824,26 +800,26 @@ public final class PromiseTests {
     }
 
     public static void main(String[] args) throws IOException {
-        trial = new Trial();
-        fresh();
-        tape();
-        reading();
-        faults();
-        faultsOfDrives();
-        drives();
-        laws();
-        dues();
-        plans();
-        splits();
-        harms();
-        rings();
-        explaining();
-        telling();
-        mixing();
-        otherLaws();
-        counts();
-        images();
-        slots();
-        trial.close();
+        PromiseTests tests = new PromiseTests();
+        tests.fresh();
+        tests.tape();
+        tests.reading();
+        tests.faults();
+        tests.faultsOfDrives();
+        tests.drives();
+        tests.laws();
+        tests.dues();
+        tests.plans();
+        tests.splits();
+        tests.harms();
+        tests.rings();
+        tests.explaining();
+        tests.telling();
+        tests.mixing();
+        tests.otherLaws();
+        tests.counts();
+        tests.images();
+        tests.slots();
+        tests.close();
     }
 }

@@ -1,10 +1,16 @@
 import java.io.IOException;
 import java.nio.file.Files;
 import java.nio.file.Path;
+import java.util.function.Consumer;
+import java.util.function.ToIntFunction;
 
-/** What the tests share: typing a text to a tape, and noting each answer that is not as due. */
-final class Trial {
-    static final String MOOR = "moor gaps 1 days 1 each 2 due 1;";
+/** What the tests share: telling a moor, asking, and noting each answer that is not as due. */
+abstract class Trial {
+    static final int LEAST = Integer.MIN_VALUE;
+    static final int MOST = Integer.MAX_VALUE;
+    static final String MOOR = moor(1, 1, 2);
+    static final String DRIVE = drive(0, 0, 0, 0, 1);
+    static final String FOG = "fog 0 on 0 misses 2;";
 
     private static final int SHOWN = 40;
 
@@ -18,19 +24,59 @@ final class Trial {
         document = squeeze(Files.readString(Path.of("../shared/DOC.md")));
     }
 
-    private static String squeeze(String text) {
+    static String squeeze(String text) {
         return text.replaceAll("\\s+", " ");
     }
 
+    // ---- texts
+
+    static String moor(int gaps, int days, int each) {
+        return moor(gaps, days, each, 1);
+    }
+
+    static String moor(int gaps, int days, int each, int due) {
+        return "moor gaps " + gaps + " days " + days + " each " + each + " due " + due + ";";
+    }
+
+    static String drive(int owner, int gap, int day, int hour, int sheep) {
+        return "drive " + owner + " gap " + gap + " on " + day + " at " + hour + " sheep " + sheep;
+    }
+
+    static String repeat(String text, int times) {
+        return text.repeat(times);
+    }
+
+    /** Puts a text behind what the tape has. */
+    static void type(HundredthSheep x, String text) {
+        int length = x.count(6) + text.length();
+        for (int i = 0; i < text.length(); i += 20) {
+            int[] five = new int[5];
+            for (int j = 0; j < 20; j++) {
+                int sign = i + j < text.length() ? text.charAt(i + j) : 0;
+                five[j / 4] |= sign << (24 - 8 * (j % 4));
+            }
+            x.feed(five[0], five[1], five[2], five[3], five[4]);
+        }
+        x.end(length);
+    }
+
+    static void rowOf(HundredthSheep x, int slot, long... numbers) {
+        x.row(slot, 2, numbers.length);
+        for (int i = 0; i < numbers.length; i++) {
+            x.write(slot, i, numbers[i]);
+        }
+    }
+
+    // ---- answers
+
     /** All that is asked from here on is asked for this sentence of the document. */
     void sentence(String quoted) {
-        sentence = quoted;
+        about(quoted);
         if (!document.contains(squeeze(quoted))) {
             complain("the document does not say this");
         }
     }
 
-    /** All that is asked from here on is asked for this. */
     void about(String what) {
         sentence = what;
     }
@@ -49,43 +95,19 @@ final class Trial {
         }
     }
 
-    void same(String what, String got, String want) {
+    private void same(String what, String got, String want) {
         asked++;
         if (!got.equals(want)) {
             int at = 0;
             while (at < got.length() && at < want.length() && got.charAt(at) == want.charAt(at)) {
                 at++;
             }
-            int from = Math.max(0, at - 30);
-            complain(what + ": .." + got.substring(from, Math.min(got.length(), at + 10)) + "..\n    due is: .."
-                + want.substring(from, Math.min(want.length(), at + 10)) + "..");
+            complain(what + " it is " + around(got, at) + ", due is " + around(want, at));
         }
     }
 
-    static int[] five(String text, int from) {
-        int[] five = new int[5];
-        for (int j = 0; j < 20; j++) {
-            int sign = from + j < text.length() ? text.charAt(from + j) : 0;
-            five[j / 4] |= (sign & 255) << (24 - 8 * (j % 4));
-        }
-        return five;
-    }
-
-    /** Puts a text behind what the tape has. */
-    static void type(HundredthSheep x, String text) {
-        int length = x.count(6) + text.length();
-        for (int i = 0; i < text.length(); i += 20) {
-            int[] five = five(text, i);
-            x.feed(five[0], five[1], five[2], five[3], five[4]);
-        }
-        x.end(length);
-    }
-
-    static void rowOf(HundredthSheep x, int slot, long... numbers) {
-        x.row(slot, 2, numbers.length);
-        for (int i = 0; i < numbers.length; i++) {
-            x.write(slot, i, numbers[i]);
-        }
+    private static String around(String text, int at) {
+        return ".." + text.substring(Math.max(0, at - 30), Math.min(text.length(), at + 10)) + "..";
     }
 
     HundredthSheep told(String text) {
@@ -97,6 +119,11 @@ final class Trial {
             complain("moor() answered " + lines + ", fault " + x.fault(0) + " at " + x.fault(1) + " in " + text);
         }
         return x;
+    }
+
+    /** All that can go through one gap, by the least each and the greatest due: 1,188 dues of 999. */
+    HundredthSheep full() {
+        return told(moor(1, 1, 2, 999) + "owners 5;" + repeat(drive(4, 0, 0, 23, 99) + " lambs 99;", 12));
     }
 
     void faulty(String text, int fault, int place) {
@@ -119,6 +146,54 @@ final class Trial {
             faulty(before + "-1" + after, 1, before.length());
         }
         faulty(before + (most + 1) + after, 2, before.length());
+    }
+
+    // ---- what stays
+
+    /** Numbers that are not 0 .. many less 1. */
+    static int[] notBelow(int many) {
+        return new int[] {LEAST, -1, many, many + 1, MOST};
+    }
+
+    /** All that can be seen of two objects is the same; to see it uses them up. */
+    void alike(String when, HundredthSheep got, HundredthSheep want) {
+        same(when, Look.at(got), Look.at(want));
+    }
+
+    /** A call that is refused: what it answers, and that all is as it was. */
+    void refused(String call, ToIntFunction<HundredthSheep> asks, int why) {
+        refused(call, x -> { }, asks, why);
+    }
+
+    /** A call that is refused once an object has been made ready for it. */
+    void refused(String call, Consumer<HundredthSheep> ready, ToIntFunction<HundredthSheep> asks, int why) {
+        HundredthSheep untouched = Look.made();
+        ready.accept(untouched);
+        HundredthSheep x = Look.made();
+        ready.accept(x);
+        is(call, asks.applyAsInt(x), why);
+        alike("behind " + call, x, untouched);
+    }
+
+    /** A call that is refused for want of a moor. */
+    void refusedWithoutMoor(String call, ToIntFunction<HundredthSheep> asks) {
+        HundredthSheep x = Look.bare();
+        is(call + " without a moor", asks.applyAsInt(x), -2);
+        alike("behind " + call + " without a moor", x, Look.bare());
+    }
+
+    /** A call that answers and changes nothing. */
+    void looksOnly(String call, ToIntFunction<HundredthSheep> asks) {
+        HundredthSheep x = Look.made();
+        int answer = asks.applyAsInt(x);
+        is(call + " again", asks.applyAsInt(x), answer);
+        alike("behind " + call, x, Look.made());
+    }
+
+    /** A call that only looks, and has nothing to look at without a moor. */
+    void needsMoor(String call, ToIntFunction<HundredthSheep> asks) {
+        refusedWithoutMoor(call, asks);
+        looksOnly(call, asks);
     }
 
     void close() {
