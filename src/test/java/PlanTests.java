@@ -23,7 +23,7 @@ public final class PlanTests extends Trial {
             needsMoor("best(4, " + what + ")", y -> y.best(4, asked));
         }
         is("best(11, 0) of the most", full().best(11, 0), 6 * 198 * 999);
-        is("best(0, 0) of one that never goes", told(MOOR + drive(0, 0, 0, 23, 9) + " lame;").best(0, 2), 23);
+        is("best(0, 2) of one that best never goes", told(MOOR + drive(0, 0, 0, 23, 9) + " lame;").best(0, 2), 23);
         sentence("SPLIT (IV) of a DRIVE, what 0: what its owner pays then, 1: how many sheep stay, 2: GAP of the others, 3: "
             + "their HOUR. NONE: it has but one sheep; -2: there are none such.");
         for (int i : notBelow(5)) {
@@ -140,7 +140,7 @@ public final class PlanTests extends Trial {
             + drive(2, 0, 0, 2, 1) + ";" + drive(2, 0, 0, 3, 2) + " painted 0;");
         // 1 is due, then the first of the painted: without 0 it is 2 and the second of the painted
         is("harm(0)", x.harm(0), 999 - 999);
-        // without 1 it is 2, and no other number is
+        // without 1 it is 2, and then the second of the painted as well
         is("harm(1), less", x.harm(1), -999);
         is("harm(3), painted", x.harm(3), 999);
         HundredthSheep lambs = told(moor(1, 1, 2, 7) + "owners 2;" + drive(0, 0, 0, 0, 2) + " lambs 1;" + drive(1, 0, 0, 1, 1) + ";");
@@ -161,10 +161,10 @@ public final class PlanTests extends Trial {
         }
         needsMoor("ewe(0, 0, 0, 0)", y -> y.ewe(0, 0, 0, 0));
         needsMoor("ewe(2, 2, 2, 23)", y -> y.ewe(2, 2, 2, 23));
-        // the other's two come to be one due if the ewe goes ahead of one of them; in his own hour it goes behind
+        // his first is due; ahead of it the ewe is, and then his second; behind it, in its very hour too, both of his are
         HundredthSheep x = told(moor(4, 9, 2, 999) + "owners 2;start 3 is 1;" + drive(1, 3, 8, 5, 1) + ";" + drive(1, 3, 8, 23, 1) + ";");
         is("paid(1)", x.paid(1), 999);
-        is("ewe(0, 3, 8, 4), less", x.ewe(0, 3, 8, 4), 0);
+        is("ewe(0, 3, 8, 4), ahead of both", x.ewe(0, 3, 8, 4), 0);
         is("ewe(0, 3, 8, 5), behind the first", x.ewe(0, 3, 8, 5), 999);
         is("ewe(0, 3, 8, 23), behind all", x.ewe(0, 3, 8, 23), 0);
         is("ewe(1, 3, 8, 5), his own", x.ewe(1, 3, 8, 5), 0);

@@ -178,13 +178,7 @@ public final class TapeTests extends Trial {
             is("moor() with " + faults[i], x.moor(), -4);
             is("fault(0) with " + faults[i], x.fault(0), kinds[i]);
             is("count(6), the tape too", x.count(6), untouched.count(6));
-            for (int k = 0; k < 5; k++) {
-                is("drive(" + k + ", 3)", x.drive(k, 3), untouched.drive(k, 3));
-            }
-            // what fault() tells is another now: so the other is read, too, and one is read once more
-            is("moor() of the other", untouched.moor(), -4);
-            is("moor() again", x.moor(), -4);
-            alike("behind a fault", x, untouched);
+            alikeButForFaults("behind a fault", x, untouched);
         }
         HundredthSheep x = Look.made();
         int length = x.count(6);

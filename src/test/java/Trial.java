@@ -160,6 +160,12 @@ abstract class Trial {
         same(when, Look.at(got), Look.at(want));
     }
 
+    /** Alike but for what fault() tells: it is told anew by each moor(). */
+    void alikeButForFaults(String when, HundredthSheep got, HundredthSheep want) {
+        String faults = "\nfault [^\n]*";
+        same(when, Look.at(got).replaceAll(faults, ""), Look.at(want).replaceAll(faults, ""));
+    }
+
     /** A call that is refused: what it answers, and that all is as it was. */
     void refused(String call, ToIntFunction<HundredthSheep> asks, int why) {
         refused(call, x -> { }, asks, why);
