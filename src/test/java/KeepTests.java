@@ -299,10 +299,13 @@ public final class KeepTests extends Trial {
             refused("paste(" + slot + ", 0, 0, 0, 1)", y -> y.paste(slot, 0, 0, 0, 1), -2);
             refused("paste(0, 0, " + slot + ", 0, 1)", y -> y.paste(0, 0, slot, 0, 1), -2);
             refused("paste(" + slot + ", 0, 3, 0, 1) to nothing", y -> y.paste(slot, 0, 3, 0, 1), -2);
+            refused("paste(3, 0, " + slot + ", 0, 1) from nothing", y -> y.paste(3, 0, slot, 0, 1), -2);
         }
         refused("paste from nothing", y -> y.paste(3, 0, 0, 0, 1), -6);
         refused("paste to nothing", y -> y.paste(0, 0, 3, 0, 1), -6);
         refused("paste from nothing to itself", y -> y.paste(3, 0, 3, 0, 0), -6);
+        refused("paste from nothing to a row of 4 bytes", y -> y.paste(3, 0, 1, 0, 1), -6);
+        refused("paste from a row of 8 bytes to nothing", y -> y.paste(2, 0, 3, 0, 0), -6);
         refused("paste from nothing, below 0", y -> y.paste(3, -1, 0, 0, -1), -6);
         refused("paste of another width", y -> y.paste(0, 0, 1, 0, 1), -8);
         refused("paste of another width, none", y -> y.paste(0, 0, 2, 0, 0), -8);

@@ -106,6 +106,12 @@ public final class MoorTests extends Trial {
         is("dues(), anew by day", anew.dues(), 1);
         is("due(0, 5), anew by day", anew.due(0, 5), 2);
         is("mixed(0, 0), anew by day", anew.mixed(0, 0), 1);
+        // one has gone ahead of three: of these the second is missed, and the first is due
+        HundredthSheep third = told(moor(1, 1, 2) + drive(0, 0, 0, 0, 1) + ";" + drive(0, 0, 0, 1, 3) + ";fog 0 on 0 misses 3;");
+        is("dues(), the third missed", third.dues(), 1);
+        is("due(0, 4), the third missed", third.due(0, 4), 1);
+        is("due(0, 5), the third missed", third.due(0, 5), 0);
+        is("counter(0, 0, 1), the third missed", third.counter(0, 0, 1), 1);
         // lambs that are not counted are not missed either
         HundredthSheep y = told(moor(1, 1, 9) + "law pass;" + drive(0, 0, 0, 0, 1) + " lambs 7;" + drive(0, 0, 0, 1, 2)
             + ";fog 0 on 0 misses 2;");
