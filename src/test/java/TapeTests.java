@@ -187,6 +187,42 @@ public final class TapeTests extends Trial {
         is("end at the fault", x.end(x.fault(1)), length);
         is("moor() without it", x.moor(), 9);
         is("count(3)", x.count(3), 8);
+        nothingOfAFault();
+    }
+
+    /** What a faulty text told ahead of its fault is not taken, and what was told before stays, the tape too. */
+    private void nothingOfAFault() {
+        HundredthSheep x = told(moor(2, 3, 9, 4) + "owners 2;start 0 is 3;" + drive(1, 1, 2, 9, 9) + " lambs 9;");
+        x.law(3, 8);
+        x.sets(0, 0, 7);
+        String faulty = moor(1, 1, 2, 1) + "law all;law clear;law pass;owners 1;start 0 is 1;lambs from 0;" + DRIVE + ";" + FOG + "?";
+        type(x, faulty);
+        is("moor()", x.moor(), -4);
+        int[] counts = {2, 3, 2, 1, 0, 4, faulty.length(), 0, 0};
+        for (int what = 0; what < 9; what++) {
+            is("count(" + what + ") behind a fault", x.count(what), counts[what]);
+        }
+        int[] laws = {0, 0, 0, 8, 4};
+        for (int what = 0; what < 5; what++) {
+            is("law(" + what + ") behind a fault", x.law(what, laws[what]), laws[what]);
+        }
+        int[] drive = {1, 0, 2, 7, 9, 9, 1, 0};
+        for (int what = 0; what < 8; what++) {
+            is("drive(0, " + what + ") behind a fault", x.drive(0, what), drive[what]);
+        }
+        is("counter(0, 0, 23) behind a fault", x.counter(0, 0, 23), 3);
+        is("through(0, 2, 1) behind a fault, no fog", x.through(0, 2, 1), 18);
+        int place = x.fault(1);
+        is("moor() again, of the same tape", x.moor(), -4);
+        is("fault(1) again", x.fault(1), place);
+        is("end at the fault", x.end(place), place);
+        is("moor() without the fault", x.moor(), 9);
+        is("count(6) then", x.count(6), 0);
+        type(x, "?");
+        is("moor()", x.moor(), -4);
+        is("end(0)", x.end(0), 0);
+        is("moor() of a tape emptied behind a fault", x.moor(), 0);
+        is("count(5), none then", x.count(5), 0);
     }
 
     private void faults() {
